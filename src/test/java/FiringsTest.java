@@ -110,6 +110,17 @@ public final class FiringsTest {
         for (int c = 0; c < 4; c++) {
             Check.due("spread: fast retard of " + c, fast[c], x.cylinder(c, 0));
         }
+        for (int most = 0; most < 5; most++) {
+            KnockControl five = new KnockControl();
+            five.begin(5);
+            five.set(4, 15);
+            for (int c = 0; c <= most; c++) {
+                five.fire(3000, 80, c == most ? 20000 : 200);
+            }
+            for (int c = 0; c < 5; c++) {
+                Check.due("spread from " + most + " to " + c, c == most ? 40 : 25, five.cylinder(c, 0));
+            }
+        }
         x.set(2, 1);
         x.fire(3000, 80, 200);
         Check.due("a return below the spread is taken back", 25, x.cylinder(1, 0));

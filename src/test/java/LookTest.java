@@ -30,6 +30,12 @@ public final class LookTest {
         x.set(0, 128);
         Check.due("threshold with gain 128", 1825, x.cylinder(1, 3));
         Check.due("cylinder(2, 1)", 51200, x.cylinder(2, 1));
+        x.begin(3);
+        for (int i = 0; i < 90; i++) {
+            int c = x.next();
+            Check.due("a firing at the threshold", 0, x.fire(3000, 80, Math.min(20000, x.cylinder(c, 3))));
+            Check.due("the threshold then", x.cylinder(c, 1) * 128 / 4096 + 50, x.cylinder(c, 3));
+        }
         Check.refusedPlace(x, "cylinder(-1, 0)", () -> x.cylinder(-1, 0));
         Check.refusedPlace(x, "cylinder(3, 0)", () -> x.cylinder(3, 0));
         Check.refusedPlace(x, "cylinder(max, 0)", () -> x.cylinder(Integer.MAX_VALUE, 0));
@@ -139,6 +145,20 @@ public final class LookTest {
         Check.due("the last has most", 30, y.unfairness());
         y.begin(2);
         Check.due("anew", 0, y.unfairness());
+        for (int one = 0; one < 5; one++) {
+            Check.due("most has " + one, 40, unfairnessWith(one, 20000, 200));
+            Check.due("least has " + one, 40, unfairnessWith(one, 200, 20000));
+        }
+    }
+
+    /** One of five cylinders fires with an energy of its own. */
+    private static int unfairnessWith(int one, int own, int others) {
+        KnockControl x = new KnockControl();
+        x.begin(5);
+        for (int c = 0; c < 5; c++) {
+            x.fire(3000, 80, c == one ? own : others);
+        }
+        return x.unfairness();
     }
 
     // Promise 17

@@ -120,6 +120,11 @@ public final class ModelTest {
         // Energy 230 + r + 12 * k; the first r is 38, so k may be 23 (544) and not
         // 24 (556): 80 - 80 - 8 * (octane - 95) <= 23 from 93 on (k = 16) and not at 92 (k = 24).
         Check.due("of one firing", 93, x.lowestOctane(3000, 80, 1));
+        KnockControl later = new KnockControl();
+        later.seed(7);
+        // Now r is 4, 6, 28, 34: with 92 it takes an r above 32 to knock.
+        Check.due("of three firings", 92, later.lowestOctane(3000, 80, 3));
+        Check.due("of four firings", 93, later.lowestOctane(3000, 80, 4));
         Check.due("with no octane number", -1, loud().lowestOctane(7000, 100, 100));
         KnockControl broken = new KnockControl();
         broken.breakSensor(true);

@@ -80,6 +80,10 @@ public final class SettingsTest {
         Check.due("begin: the sensor stays", true, x.breakSensor(false));
         Check.due("begin: s stays", 77, x.seed(1));
         Check.due("begin again", 0, x.begin(3));
+        x.fire(3000, 80, 200);
+        Check.due("good count before begin", 1, x.status(2));
+        x.begin(3);
+        lookInitial(x, 3);
         x.fire(3000, 80, 551);
         Check.due("begin once more", 1, x.begin(3));
         x.fire(3000, 80, 551);
@@ -167,6 +171,9 @@ public final class SettingsTest {
         x.breakSensor(true);
         x.drive(3000, 80, 80, 3);
         Check.due("the firings have no energy", 3, x.status(1));
+        x.set(6, 1);
+        x.drive(3000, 80, 80, 3);
+        Check.due("none at all", 6, x.status(1));
         x.fire(3000, 80, 400);
         Check.due("fire does not use the model's sensor", 1, x.status(2));
     }
