@@ -7,8 +7,14 @@ final class Check {
 
     private static int checked = 0;
     private static int wrong = 0;
+    private static String about = "";
 
     private Check() {
+    }
+
+    /** What the answers to come are about; a wrong one is told with it. */
+    static void about(String words) {
+        about = words + ": ";
     }
 
     static void due(String call, long want, long got) {
@@ -61,7 +67,7 @@ final class Check {
     static void tell(String fault) {
         wrong++;
         if (wrong <= 40) {
-            System.out.println(fault);
+            System.out.println(about + fault);
         }
     }
 

@@ -9,22 +9,18 @@ public final class LogTest {
 
     /** Every firing knocks, so that event and firing go together until the log is full. */
     private static void growing() {
-        KnockControl x = new KnockControl();
-        x.begin(7);
-        // Nothing is to be learned meanwhile, as that would make events, too.
-        x.set(5, 500);
-        for (int i = 0; i < 150; i++) {
-            Check.due("events() after " + i, Math.min(i, 60), x.events());
-            Check.due("eventsOf(0) after " + i, Math.min(i, 60), x.eventsOf(0));
-            x.fire(3000, 80, 20000);
-            int size = Math.min(i + 1, 60);
-            for (int event = 0; event < size; event += size > 8 ? 7 : 1) {
-                int firing = i + 1 - size + event;
+        KnockControl x = knocks(0);
+        for (int count = 0; count <= 150; count++) {
+            x = knocks(count);
+            int size = Math.min(count, 60);
+            Check.due("events() after " + count, size, x.events());
+            Check.due("eventsOf(0) after " + count, size, x.eventsOf(0));
+            for (int event = 0; event < size; event++) {
+                int firing = count - size + event;
                 Check.due("kind", 0, x.event(event, 0));
                 Check.due("cylinder of event " + event, firing % 7, x.event(event, 1));
                 Check.due("firing of event " + event, firing, x.event(event, 2));
             }
-            Check.due("the latest", i, x.event(size - 1, 2));
         }
         int before = x.event(0, 2);
         x.fire(3000, 80, 20000);
@@ -36,6 +32,15 @@ public final class LogTest {
         Check.due("empty after begin", 0, x.events());
         x.fire(3000, 80, 20000);
         Check.due("from 0 again", 0, x.event(0, 2));
+    }
+
+    private static KnockControl knocks(int count) {
+        KnockControl x = new KnockControl();
+        x.begin(7);
+        // Nothing is to be learned meanwhile, as that would make events, too.
+        x.set(5, 500);
+        Steps.fire(x, count, 3000, 80, 20000);
+        return x;
     }
 
     private static void kinds() {

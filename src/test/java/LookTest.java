@@ -168,21 +168,21 @@ public final class LookTest {
         x.fire(3000, 80, 100);
         Check.due("rateBits() without a knock", 0, x.rateBits());
         x.begin(2);
-        for (int i = 1; i <= 300; i++) {
+        for (int i = 1; i <= 250; i++) {
             x.fire(3000, 80, 20000);
             Check.due("all of " + i, Float.floatToIntBits(1.0f), x.rateBits());
         }
-        x.begin(4);
+        KnockControl some = new KnockControl();
         int knocked = 0;
         for (int i = 1; i <= 150; i++) {
-            x.fire(3000, 80, i % 7 == 0 || i % 11 < 2 ? 20000 : 100);
+            some.fire(3000, 80, i % 7 == 0 || i % 11 < 2 ? 20000 : 100);
             knocked += i % 7 == 0 || i % 11 < 2 ? 1 : 0;
-            Check.due(knocked + " of " + i, Float.floatToIntBits((float) knocked / (float) i), x.rateBits());
+            Check.due(knocked + " of " + i, Float.floatToIntBits((float) knocked / (float) i), some.rateBits());
         }
         KnockControl few = new KnockControl();
         few.fire(3000, 80, 20000);
         few.breakSensor(true);
-        for (int i = 1; i <= 400; i++) {
+        for (int i = 1; i <= 250; i++) {
             few.drive(3000, 80, 95, 1000);
             int all = 1000 * i + 1;
             Check.due("1 of " + all, Float.floatToIntBits(1.0f / (float) all), few.rateBits());

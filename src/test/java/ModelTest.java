@@ -129,13 +129,13 @@ public final class ModelTest {
         KnockControl broken = new KnockControl();
         broken.breakSensor(true);
         Check.due("of a broken sensor", 80, broken.lowestOctane(7000, 100, 100));
-        KnockControl best = new KnockControl();
-        best.set(0, 16);
         for (int count = 1; count <= 100; count += 9) {
+            KnockControl best = new KnockControl();
+            best.set(0, 16);
             check(best, 3000, 100, count);
-            check(x, 3000, 80, count);
-            check(x, 7000, 0, count);
-            check(x, 500, 100, count);
+            check(new KnockControl(), 3000, 80, count);
+            check(new KnockControl(), 7000, 0, count);
+            check(new KnockControl(), 500, 100, count);
         }
     }
 

@@ -2,8 +2,11 @@ import java.util.Random;
 
 /** Long runs of calls, right and wrong ones, whose answers the program and the reference must share. */
 public final class RandomRunsTest {
-    private static final int RUNS = 1500;
+    private static final int RUNS = 3000;
+    // What an object answers to later calls is free.
     private static final int CALLS = 512;
+    // Of one make() and the digest() after it, which may write four pieces of text.
+    private static final int MOST_AT_ONCE = 4 * 15 + 2;
     private static final int[] SPEEDS = {500, 1499, 1500, 2499, 2500, 3000, 5499, 5500, 6499, 6500, 7000};
     private static final int[] LOADS = {0, 24, 25, 49, 50, 74, 75, 80, 99, 100};
     private static final int[][] RANGES = {
@@ -20,6 +23,7 @@ public final class RandomRunsTest {
     private Object got;
     private Object want;
     private String call;
+    private int calls;
 
     private RandomRunsTest(long seed) {
         random = new Random(seed);
@@ -34,18 +38,22 @@ public final class RandomRunsTest {
 
     private void run(int run) {
         int temper = random.nextInt(4);
-        for (int i = 0; i < CALLS; i++) {
+        while (calls <= CALLS - MOST_AT_ONCE) {
             if (random.nextInt(12) == 0) {
                 changeOperation();
             }
+            calls++;
             try {
                 make(temper == 0 ? random.nextInt(100) : choose(temper));
             } catch (RuntimeException e) {
                 got = e.getClass().getName();
             }
-            compare(run, i, call, want, got);
-            long digest = x.digest();
-            compare(run, i, "digest() after " + call, y.digest(), digest);
+            compare(run, calls, call, want, got);
+            if (random.nextInt(4) == 0 || calls > CALLS - MOST_AT_ONCE) {
+                calls++;
+                long digest = x.digest();
+                compare(run, calls, "digest() after " + call, y.digest(), digest);
+            }
         }
     }
 
@@ -99,8 +107,8 @@ public final class RandomRunsTest {
             case 1:
                 return from(0, 20);
             case 2:
-                int c = x.next();
-                return Math.min(20000, x.cylinder(c, 3) + random.nextInt(4) - 1);
+                int c = (Integer) y.next();
+                return Math.min(20000, (Integer) y.cylinder(c, 3) + random.nextInt(4) - 1);
             default:
                 return from(0, 1200);
         }
@@ -249,7 +257,7 @@ public final class RandomRunsTest {
                 got = x.events();
                 break;
             case 12:
-                int event = from(0, Math.max(0, x.events() - 1));
+                int event = from(0, Math.max(0, (Integer) y.events() - 1));
                 int what = from(0, 2);
                 call = "event(" + event + ", " + what + ")";
                 want = y.event(event, what);
@@ -312,6 +320,7 @@ public final class RandomRunsTest {
     private void writeFirings() {
         call = "appending";
         if (random.nextInt(3) > 0) {
+            calls++;
             want = y.clearText();
             got = x.clearText();
         }
@@ -319,6 +328,7 @@ public final class RandomRunsTest {
         for (int piece = 0; piece < pieces; piece++) {
             String text = TEXTS[random.nextInt(random.nextInt(4) > 0 ? 5 : TEXTS.length)];
             for (int i = 0; i < text.length(); i++) {
+                calls++;
                 call = "append of " + text.charAt(i) + " in " + text;
                 want = y.append(text.charAt(i));
                 got = x.append(text.charAt(i));

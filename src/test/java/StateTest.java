@@ -117,45 +117,6 @@ public final class StateTest {
     }
 
     // Promise 30
-    private static long hash(List<Long> values) {
-        long h = 2969;
-        for (long v : values) {
-            h = 31 * h + v;
-        }
-        return h;
-    }
-
-    private static List<Long> seen(KnockControl x, int length, long s, boolean broken, int saved) {
-        List<Long> values = new ArrayList<>();
-        values.add((long) length);
-        for (int what = 0; what <= 8; what++) {
-            values.add((long) x.value(what));
-        }
-        values.add((long) x.firings());
-        values.add((long) x.next());
-        values.add(s);
-        values.add(broken ? 1L : 0L);
-        for (int what = 0; what <= 4; what++) {
-            values.add((long) x.status(what));
-        }
-        for (int c = 0; c < x.value(8); c++) {
-            for (int what = 0; what <= 4; what++) {
-                values.add((long) x.cylinder(c, what));
-            }
-        }
-        for (int cell = 0; cell < 24; cell++) {
-            values.add((long) x.learned(cell / 4, cell % 4));
-        }
-        values.add((long) x.events());
-        for (int i = 0; i < x.events(); i++) {
-            for (int what = 0; what <= 2; what++) {
-                values.add((long) x.event(i, what));
-            }
-        }
-        values.add((long) saved);
-        return values;
-    }
-
     private static void digestOfNew() {
         KnockControl x = new KnockControl();
         long h = 2969;
@@ -186,12 +147,22 @@ public final class StateTest {
         x.seed(4711);
         x.breakSensor(true);
         Steps.write(x, "3000 1");
-        Check.due("digest() of much", hash(seen(x, 6, 4711, true, 4)), x.digest());
+        Check.due("digest() of much", Edges.hash(x, 6, 4711, 1, 4), x.digest());
+        digestOfLess();
+    }
+
+    private static void digestOfLess() {
+        KnockControl x = new KnockControl();
+        x.teach(4, 1, 55);
+        x.drive(3000, 90, 81, 10);
+        x.seed(4711);
+        x.breakSensor(true);
+        Steps.write(x, "3000 1");
         x.undo();
-        Check.due("digest() after undo", hash(seen(x, 6, 4711, false, 3)), x.digest());
+        Check.due("digest() after undo", Edges.hash(x, 6, 4711, 0, 3), x.digest());
         Steps.fire(x, 21, 3000, 90, 0);
         x.undo();
-        Check.due("digest() with a faulty sensor", hash(seen(x, 6, 4711, false, 3)), x.digest());
+        Check.due("digest() with a faulty sensor", Edges.hash(x, 6, 4711, 0, 3), x.digest());
     }
 
     /** Each thing that is hashed changes the hash. */
