@@ -134,6 +134,7 @@ final class CallEdges {
                 Check.due("value(" + other + ") after set(" + what + ", 20)", due, x.value(other));
             }
         }
+        setChangesNothingElse();
         Doc.says("Undoable.");
         for (int what = 0; what < 8; what++) {
             int place = what;
@@ -160,6 +161,21 @@ final class CallEdges {
         Check.refusedArgument(x, "set(8, 4)", () -> x.set(8, 4));
         Check.refusedArgument(x, "set(-1, 40)", () -> x.set(-1, 40));
         Check.refusedArgument(x, "set(8, -1)", () -> x.set(8, -1));
+    }
+
+    private static void setChangesNothingElse() {
+        long s = Edges.richS();
+        // The thresholds are counted from the gain.
+        int[] places = {0, Edges.THRESHOLDS[0], Edges.THRESHOLDS[1], Edges.THRESHOLDS[2], Edges.THRESHOLDS[3]};
+        Edges.changesOnly("set(0, 50)", (x, v) -> x.set(0, 50), places);
+        for (int what = 1; what < 8; what++) {
+            int place = what;
+            Edges.changesOnly("set(" + what + ", 50)", (x, v) -> x.set(place, 50), what);
+        }
+        for (int what = 0; what < 8; what++) {
+            int place = what;
+            Edges.leaves("set(" + what + ", 50)", (x, v) -> x.set(place, 50), 12, s, 0, 4);
+        }
     }
 
     private static void value() {
@@ -194,6 +210,10 @@ final class CallEdges {
             Check.due("learned in cell " + cell, 4 * cell + 3, x.learned(cell / 4, cell % 4));
         }
         Check.due("no event", 0, x.events());
+        Edges.changesOnly("teach(3, 1, 100)", (y, v) -> y.teach(3, 1, 100), Edges.LEARNED + 13);
+        // The cell of the latest firing and of its steady count.
+        Edges.changesOnly("teach(5, 0, 100)", (y, v) -> y.teach(5, 0, 100), Edges.LEARNED + 20);
+        Edges.leaves("teach(5, 0, 100)", (y, v) -> y.teach(5, 0, 100), 12, Edges.richS(), 0, 4);
         Doc.says("Undoable.");
         Edges.undoable("teach(5, 3, 100)", (y, v) -> y.teach(5, 3, 100));
         Doc.says("`row`: 0 to 5");
@@ -227,6 +247,10 @@ final class CallEdges {
         x.breakSensor(false);
         x.drive(3000, 80, 80, 1);
         Check.due("not broken: energy", 1, x.status(2));
+        long s = Edges.richS();
+        Edges.changesOnly("breakSensor(true)", (y, v) -> y.breakSensor(true) ? 1 : 0);
+        Edges.leaves("breakSensor(true)", (y, v) -> y.breakSensor(true) ? 1 : 0, 12, s, 1, 4);
+        Edges.leaves("breakSensor(false)", (y, v) -> y.breakSensor(false) ? 1 : 0, 12, s, 0, 4);
         Doc.says("Undoable.");
         Edges.undoable("breakSensor(true)", (y, v) -> y.breakSensor(true) ? 1 : 0);
         Edges.undoable("breakSensor(false)", (y, v) -> y.breakSensor(false) ? 1 : 0);
@@ -249,6 +273,8 @@ final class CallEdges {
         Check.due("s after 0", 12345, x.seed(1));
         x.drive(3000, 80, 110, 1);
         Check.due("s after 1", 1103515245 + 12345, x.seed(1));
+        Edges.changesOnly("seed(77)", (y, v) -> y.seed(77));
+        Edges.leaves("seed(77)", (y, v) -> y.seed(77), 12, 77, 0, 4);
         Doc.says("Undoable.");
         Edges.undoable("seed(5)", (y, v) -> y.seed(5));
         Doc.says("`seed`: 0 to 999999");

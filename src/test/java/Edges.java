@@ -8,6 +8,10 @@ final class Edges {
     static final Class<IndexOutOfBoundsException> PLACE = IndexOutOfBoundsException.class;
     static final Class<IllegalStateException> STATE = IllegalStateException.class;
 
+    /** Where looks() tells the thresholds of 4 cylinders, and where it begins with the learned retards. */
+    static final int[] THRESHOLDS = {19, 24, 29, 34};
+    static final int LEARNED = 36;
+
     /** A call with one of its arguments free. */
     interface CallWith {
         long answer(KnockControl x, int value);
@@ -106,18 +110,61 @@ final class Edges {
         return 100000000L * kind + 1000000L * number + firing;
     }
 
+    /**
+     * The call changes no answer of those that looks() tells, but for the places named; it is made on
+     * an object of its own, so that none is used too often.
+     */
+    static void changesOnly(String call, CallWith made, int... places) {
+        List<Long> before = looks(rich());
+        KnockControl x = rich();
+        made.answer(x, 0);
+        List<Long> after = looks(x);
+        Check.due(call + ": how much there is", before.size(), after.size());
+        for (int i = 0; i < Math.min(before.size(), after.size()); i++) {
+            boolean free = false;
+            for (int place : places) {
+                free = free || place == i;
+            }
+            if (!free) {
+                Check.due(call + " leaves place " + i, before.get(i), after.get(i));
+            }
+        }
+    }
+
+    /** What no call but digest() tells is so after the call. */
+    static void leaves(String call, CallWith made, int length, long s, int broken, int saved) {
+        KnockControl x = rich();
+        made.answer(x, 0);
+        Check.due(call + ": the rest", hash(x, length, s, broken, saved), x.digest());
+    }
+
+    /** The number s of rich(). */
+    static long richS() {
+        return rich().seed(0);
+    }
+
     /** digest() counted from what the other methods answer, and from what none of them answers. */
     static long hash(KnockControl x, int length, long s, int broken, int saved) {
+        List<Long> values = looks(x);
+        values.add(0, (long) length);
+        values.add(12, s);
+        values.add(13, (long) broken);
+        values.add((long) saved);
         BigInteger h = BigInteger.valueOf(2969);
+        for (long v : values) {
+            h = h.multiply(BigInteger.valueOf(31)).add(BigInteger.valueOf(v));
+        }
+        return h.longValue();
+    }
+
+    /** All that can be looked at, in the order of digest(). */
+    static List<Long> looks(KnockControl x) {
         List<Long> values = new ArrayList<>();
-        values.add((long) length);
         for (int what = 0; what <= 8; what++) {
             values.add((long) x.value(what));
         }
         values.add((long) x.firings());
         values.add((long) x.next());
-        values.add(s);
-        values.add((long) broken);
         for (int what = 0; what <= 4; what++) {
             values.add((long) x.status(what));
         }
@@ -133,10 +180,6 @@ final class Edges {
         for (int i = 0; i < 3 * events; i++) {
             values.add((long) x.event(i / 3, i % 3));
         }
-        values.add((long) saved);
-        for (long v : values) {
-            h = h.multiply(BigInteger.valueOf(31)).add(BigInteger.valueOf(v));
-        }
-        return h.longValue();
+        return values;
     }
 }

@@ -1,7 +1,6 @@
 import java.io.IOException;
 import java.lang.reflect.Constructor;
 import java.lang.reflect.Field;
-import java.lang.reflect.Member;
 import java.lang.reflect.Method;
 import java.lang.reflect.Modifier;
 import java.nio.file.Files;
@@ -29,10 +28,15 @@ public final class FaceTest {
         "int append(int)" + ARGUMENT + ", IllegalStateException", "int clearText()", "int replay()",
         "int undo() throws IllegalStateException", "long digest()"};
     private static final String[] LEFT_OUT = {
-        "\\bimport\\b", "->", "::", "\\bsynchronized\\b", "\\bassert\\b", "\\bfinally\\b", "\\btry\\b",
-        "\\bcatch\\b", "\\bnative\\b", "\\bvolatile\\b", "\\bObject\\b", "\\bSystem\\.(?!arraycopy)",
-        "\\bFloat\\b", "\\bDouble\\b", "\\bThread\\b", "\\w+Exact\\b", "\\bequals\\b", "\\bhashCode\\b",
-        "\\btoString\\b", "@"};
+        "\\bpackage\\b",
+        "\\bimport\\b(?!\\s+java\\.util\\.(ArrayList|List|Arrays|Iterator|NoSuchElementException)\\s*;)",
+        "(?m)^(?!.*\\b(case|default)\\b).*->", "::",
+        "\\bsynchronized\\b", "\\bassert\\b", "\\bfinally\\b", "\\bstatic\\s*\\{",
+        "\\bcatch\\s*\\([^)]*\\b(Exception|Throwable|Error|ArrayIndexOutOfBoundsException|NullPointerException"
+            + "|ClassCastException|NegativeArraySizeException|ArrayStoreException)\\b",
+        "\\bObject\\b", "\\bFloat\\b", "\\bDouble\\b", "\\bThread\\b", "\\w+Exact\\b",
+        "\\bSystem\\.(?!arraycopy\\b)", "\\bgetMessage\\b", "@(?!Override\\b)",
+        "\\bboolean\\s+equals\\b", "\\bhashCode\\b", "\\bString\\s+toString\\b"};
 
     public static void main(String[] args) throws IOException {
         methods();
@@ -85,29 +89,37 @@ public final class FaceTest {
             boolean constant = field.getName().equals("NONE");
             Check.due(field + " is open", constant, Modifier.isPublic(field.getModifiers()));
             Check.due(field + " is private", !constant, Modifier.isPrivate(field.getModifiers()));
-            Check.due(field + " is final", true, Modifier.isFinal(field.getModifiers()));
         }
+        rooms(KnockControl.class);
         Class<?>[] inside = KnockControl.class.getDeclaredClasses();
         Check.due("at most 11 classes inside", true, inside.length <= 11);
         for (Class<?> one : inside) {
+            rooms(one);
             Check.due(one + " is open", false, (one.getModifiers() & (Modifier.PUBLIC | Modifier.PROTECTED)) != 0);
             Check.due(one + " is static", true, Modifier.isStatic(one.getModifiers()));
-            Check.due(one + " has at most 20 fields", true, countOwn(one.getDeclaredFields()) <= 20);
         }
     }
 
-    private static int countOwn(Member[] fields) {
-        int count = 0;
-        for (Member field : fields) {
-            count += Modifier.isStatic(field.getModifiers()) ? 0 : 1;
+    /** What LANGUAGE.md says of the fields and the parameters of each class. */
+    private static void rooms(Class<?> one) {
+        int own = 0;
+        for (Field field : one.getDeclaredFields()) {
+            if (Modifier.isStatic(field.getModifiers())) {
+                Check.due(field + " is final", true, Modifier.isFinal(field.getModifiers()));
+            } else {
+                own++;
+            }
         }
-        return count;
+        Check.due(one + " has at most 20 fields", true, own <= 20);
+        for (Method method : one.getDeclaredMethods()) {
+            Check.due(method + " has at most 7 parameters", true, method.getParameterCount() <= 7);
+        }
     }
 
     private static void program() throws IOException {
         String text = Files.readString(Path.of("src/main/java/KnockControl.java"));
         for (int i = 0; i < text.length(); i++) {
-            Check.due("sign " + i + " of the program", true, text.charAt(i) < 127);
+            Check.due("sign " + i + " of the program", true, text.charAt(i) <= 127);
         }
         String code = text.replaceAll("(?s)/\\*.*?\\*/", "").replaceAll("//[^\n]*", "");
         for (String one : LEFT_OUT) {

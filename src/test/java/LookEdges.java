@@ -466,6 +466,8 @@ final class LookEdges {
         Check.due("the text then", 1, x.replay());
         x.append(';');
         Check.due("the text at last", -22, x.replay());
+        Edges.changesOnly("append('5')", (z, v) -> z.append('5'));
+        Edges.leaves("append('5')", (z, v) -> z.append('5'), 13, Edges.richS(), 0, 3);
         Doc.says("`value`: the byte, 0 to 127");
         Edges.range("append", 0, 127, Edges.ARGUMENT, (y, v) -> y.append(v));
         Doc.says("Returns the new length of the text.");
@@ -495,6 +497,8 @@ final class LookEdges {
         Check.due("one firing", 1, x.replay());
         x.undo();
         Check.refusedState(x, "clearText() is not undoable", x::undo);
+        Edges.changesOnly("clearText()", (z, v) -> z.clearText());
+        Edges.leaves("clearText()", (z, v) -> z.clearText(), 0, Edges.richS(), 0, 3);
         Doc.says("Returns the length that it had.");
         Check.due("of 8", 8, x.clearText());
         Check.due("of none", 0, x.clearText());
